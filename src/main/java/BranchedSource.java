@@ -689,11 +689,11 @@ public final class BranchedSource {
         }
 
         int parentOne(int commit) {
-            return hasCommit(commit) ? firstParents[commit] : NONE;
+            return commit >= 0 && commit < commitCount && commit < COMMITS ? firstParents[commit] : NONE;
         }
 
         int parentTwo(int commit) {
-            return hasCommit(commit) ? secondParents[commit] : NONE;
+            return commit >= 0 && commit < commitCount && commit < COMMITS ? secondParents[commit] : NONE;
         }
 
         int treeLine(int commit, int place) {
@@ -1052,9 +1052,8 @@ public final class BranchedSource {
         }
 
         int mostSteps(State state, int commit) {
-            Arrays.fill(steps, NONE);
             for (int at = 0; at < COMMITS && at <= commit; at++) {
-                // no parent counts -1, so that the commit 0 gets 0
+                // a parent that is missing counts -1, so that the commit 0 gets 0
                 int most = Math.max(stepsOf(state.parentOne(at)), stepsOf(state.parentTwo(at)));
                 steps[at] = most + 1;
             }

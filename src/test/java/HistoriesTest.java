@@ -52,6 +52,12 @@ public final class HistoriesTest {
         for (int place = 0; place < 5; place++) {
             Check.due("historyAt(4, " + place + ")", x.historyAt(4, place), 4 - place);
         }
+        Check.due("history(2) behind that of 4", x.history(2), 3);
+        Check.due("historyAt(4, 0)", x.historyAt(4, 0), 4);
+        Check.due("historyAt(3, 0) behind that of 4", x.historyAt(3, 0), 3);
+        Check.due("historyAt(3, 1)", x.historyAt(3, 1), 1);
+        Check.due("reaches(4, 2)", x.reaches(4, 2), true);
+        Check.due("reaches(3, 2) behind that of 4", x.reaches(3, 2), false);
         BranchedSource full = Scenes.full();
         Check.due("history(59)", full.history(59), 60);
         Check.due("historyAt(59, 59)", full.historyAt(59, 59), 0);
@@ -138,6 +144,7 @@ public final class HistoriesTest {
         dueBase(crossed, 3, 4, 2);
         dueBase(crossed, 3, 1, 1);
         dueBase(Scenes.full(), 59, 58, 58);
+        dueBase(Scenes.full(), 59, 59, 59);
     }
 
     private static void promise52() {
@@ -145,6 +152,7 @@ public final class HistoriesTest {
         BranchedSource x = Scenes.crossed();
         Check.due("bestCommon(3, 4)", x.bestCommon(3, 4), 2);
         Check.due("bestCommon(4, 3)", x.bestCommon(4, 3), 2);
+        Check.due("of the last of sixty commits", Scenes.full().bestCommon(59, 59), 1);
         Check.due("bestCommon(1, 2)", x.bestCommon(1, 2), 1);
         Check.due("bestCommon(3, 3)", x.bestCommon(3, 3), 1);
         Check.due("bestCommon(3, 1)", x.bestCommon(3, 1), 1);

@@ -116,6 +116,16 @@ public final class LinesTest {
         Scenes.commitLine(both, 0, 0, 5);
         both.merge(0);
         Check.due("the same line by both parents: the first one", both.broughtBy(3, 0, 0), 2);
+        BranchedSource neither = Scenes.openMerge();
+        neither.resolve(1, 0, true);
+        neither.resolve(1, 1, false);
+        neither.edit(1, 3, 50);
+        neither.edit(2, 0, 0);
+        neither.commit();
+        Check.due("theirs", neither.broughtBy(3, 1, 0), 1);
+        Check.due("ours", neither.broughtBy(3, 1, 1), 2);
+        Check.due("by neither parent of a merge", neither.broughtBy(3, 1, 3), 3);
+        Check.due("by neither parent of a merge, though by the commit 0", neither.broughtBy(3, 2, 0), 3);
         BranchedSource full = Scenes.full();
         Check.due("down sixty commits", full.broughtBy(59, 1, 1), 0);
     }
@@ -126,6 +136,8 @@ public final class LinesTest {
         Check.due("firstWith(3, 0, 0, 5)", x.firstWith(3, 0, 0, 5), 1);
         Check.due("firstWith(3, 0, 0, 0)", x.firstWith(3, 0, 0, 0), 0);
         Check.due("firstWith(3, 0, 2, 7)", x.firstWith(3, 0, 2, 7), 3);
+        Check.due("firstWith(2, 0, 2, 7)", x.firstWith(2, 0, 2, 7), -1);
+        Check.due("firstWith(0, 0, 0, 5)", x.firstWith(0, 0, 0, 5), -1);
         Check.due("a commit that is not reached", x.firstWith(3, 0, 1, 6), -1);
         Check.due("no such value", x.firstWith(3, 0, 0, 6), -1);
         Check.due("value -1", x.firstWith(3, 0, 0, -1), -1);

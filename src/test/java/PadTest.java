@@ -182,6 +182,11 @@ public final class PadTest {
         for (int order = 0; order < 10; order++) {
             sixty.append("0.0=").append(order % 2 + 1).append(";");
         }
+        Check.due("a pick of no commit", Scenes.run(x, "p40;"), 0);
+        Check.due("a revert of no commit", Scenes.run(x, "r6;"), 0);
+        Check.due("a revert before it", Scenes.run(x, "r5;p5;p0;"), 2);
+        Check.due("a pick of the commit 0", Scenes.run(x, "p0;"), 0);
+        Check.due("a revert of the commit 0", Scenes.run(x, "r5;r0;"), 1);
         Check.due("a full pad", Scenes.run(many, sixty.toString()), 10);
         Check.due("many commits", Scenes.run(many, "c;"), 1);
         Check.due("a long row of short orders", Scenes.run(many, "0.0=9;c;r2;p2;r2;p2;r2;p2;r2;p2;r2;p2;r2;p2;r2;p2;r2;p2;r2;"), 19);

@@ -8,6 +8,7 @@ public final class UndoTest {
         promise59EveryChange();
         promise59NotRecorded();
         promise59NumbersAgain();
+        promise59BringsAsideBack();
         Check.end();
     }
 
@@ -224,5 +225,60 @@ public final class UndoTest {
         x.undo();
         x.undo();
         Check.due("the one before is back", x.lineAt(2, 0, 0), 3);
+        BranchedSource y = Scenes.fork();
+        y.merge(0);
+        y.keep();
+        y.undo();
+        y.reset(2);
+        Scenes.commitLine(y, 3, 3, 3);
+        Check.due("another firstParent", y.firstParent(4), 2);
+        Check.due("another secondParent", y.secondParent(4), -1);
+        y.goBack();
+        Check.due("the firstParent is back", y.firstParent(4), 3);
+        Check.due("the secondParent is back", y.secondParent(4), 2);
+        y.undo();
+        Check.due("another firstParent", y.firstParent(4), 2);
+        Check.due("another secondParent", y.secondParent(4), -1);
+    }
+
+    /** What is aside, and the head at that time, come back too. */
+    private static void promise59BringsAsideBack() {
+        Check.part("promise 59");
+        BranchedSource x = new BranchedSource();
+        Scenes.commitLine(x, 0, 0, 1);
+        x.edit(3, 5, 7);
+        x.edit(0, 0, 2);
+        x.putAside();
+        x.keep();
+        x.takeBack();
+        x.reset(0);
+        x.edit(1, 1, 1);
+        x.putAside();
+        Check.due("goBack", x.goBack(), 2);
+        Check.due("lineOf(0, 0)", x.lineOf(0, 0), 1);
+        Check.due("takeBack", x.takeBack(), 2);
+        Check.due("lineOf(0, 0)", x.lineOf(0, 0), 2);
+        Check.due("lineOf(1, 1)", x.lineOf(1, 1), 0);
+        Check.due("lineOf(3, 5)", x.lineOf(3, 5), 7);
+        BranchedSource three = new BranchedSource();
+        for (int line = 3; line < 6; line++) {
+            three.edit(3, line, line);
+            three.putAside();
+        }
+        three.keep();
+        for (int line = 3; line < 6; line++) {
+            three.takeBack();
+        }
+        three.reset(0);
+        for (int line = 3; line < 6; line++) {
+            three.edit(2, line, 9);
+            three.putAside();
+        }
+        three.goBack();
+        for (int line = 5; line >= 3; line--) {
+            Check.due("takeBack", three.takeBack(), 1);
+            Check.due("lineOf(3, ..)", three.lineOf(3, line), line);
+        }
+        Check.due("changed", three.changed(), 3);
     }
 }
