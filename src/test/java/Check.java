@@ -34,6 +34,13 @@ final class Check {
         }
     }
 
+    static void dueText(String call, String got, String want) {
+        told++;
+        if (!got.equals(want)) {
+            tell(call + " is\n" + got + "\nand due is\n" + want);
+        }
+    }
+
     static void dueArgumentFault(String call, Call tested) {
         dueFault(call, tested, IllegalArgumentException.class);
     }
