@@ -3,6 +3,7 @@ public final class AccountsEdgesTest {
     public static void main(String[] args) {
         branchOutOfRange();
         noSuchBranch();
+        askedFirst();
         ofTheCurrentOneAndOfReachedOnes();
         ofOneThatIsAhead();
         fromNoneToAll();
@@ -22,7 +23,8 @@ public final class AccountsEdgesTest {
     private static void branchOutOfRange() {
         Check.part("promises 53, 54: IllegalArgumentException if branch is out of range, ahead of no such branch");
         for (int branch : BranchesEdgesTest.NO_BRANCH) {
-            for (Refused.Scene scene : new Refused.Scene[] {Scenes::marked, () -> Scenes.sixBranches(Scenes.fork(Scenes.marked()))}) {
+            Refused.Scene six = () -> Scenes.sixBranches(Scenes.fork(Scenes.marked()));
+            for (Refused.Scene scene : new Refused.Scene[] {Scenes::marked, six}) {
                 Refused.byArgument("wouldConflict(" + branch + ")", scene, x -> x.wouldConflict(branch));
                 Refused.byArgument("wouldBecome(" + branch + ")", scene, x -> x.wouldBecome(branch));
             }
@@ -48,6 +50,20 @@ public final class AccountsEdgesTest {
     private static void due(BranchedSource x, int branch, int conflicts, int becoming) {
         Check.due("wouldConflict(" + branch + ")", x.wouldConflict(branch), conflicts);
         Check.due("wouldBecome(" + branch + ")", x.wouldBecome(branch), becoming);
+    }
+
+    /** Each question stands alone: its answer does not hang on those that were asked before. */
+    private static void askedFirst() {
+        Check.part("promises 53, 54: the first question of an object, and one behind another");
+        BranchedSource becoming = sides(5, false);
+        Check.due("wouldBecome", becoming.wouldBecome(0), 5);
+        Check.due("wouldBecome of the current one", becoming.wouldBecome(1), 0);
+        Check.due("wouldBecome again", becoming.wouldBecome(0), 5);
+        BranchedSource conflicting = sides(5, true);
+        Check.due("wouldConflict", conflicting.wouldConflict(0), 5);
+        Check.due("wouldConflict of the current one", conflicting.wouldConflict(1), 0);
+        Check.due("wouldBecome", conflicting.wouldBecome(0), 19);
+        Check.due("wouldConflict again", conflicting.wouldConflict(0), 5);
     }
 
     private static void ofTheCurrentOneAndOfReachedOnes() {

@@ -6,6 +6,7 @@ public final class HistoriesEdgesTest {
         commitOutOfRange();
         commitOutOfRangeAtSixty();
         commitThatIsGone();
+        oneQuestionBehindAnother();
         reachesItself();
         reachesByBothParents();
         historyFromOneToSixty();
@@ -113,6 +114,47 @@ public final class HistoriesEdgesTest {
         for (int kind = 0; kind < QUESTIONS_OF_ONE.length; kind++) {
             OfTwo question = QUESTIONS_OF_ONE[kind];
             Check.dueArgumentFault(NAMES_OF_ONE[kind] + " of 3", () -> question.ask(x, 3, 0));
+        }
+    }
+
+    /** What a question has marked is no part of the answer of the next one. */
+    private static void oneQuestionBehindAnother() {
+        Check.part("promises 45 to 52: each question stands alone");
+        for (int first = 0; first < QUESTIONS.length + QUESTIONS_OF_ONE.length; first++) {
+            BranchedSource x = Scenes.fork();
+            x.merge(0);
+            askOf(x, first, 4);
+            Check.due("history(2)", x.history(2), 3);
+            askOf(x, first, 4);
+            Check.due("history(0)", x.history(0), 1);
+            askOf(x, first, 4);
+            Check.due("historyAt(3, 1)", x.historyAt(3, 1), 1);
+            askOf(x, first, 4);
+            Check.due("historyAt(2, 3)", x.historyAt(2, 3), -1);
+            askOf(x, first, 4);
+            Check.due("reaches(3, 2)", x.reaches(3, 2), false);
+            askOf(x, first, 4);
+            Check.due("distance(3, 2)", x.distance(3, 2), -1);
+            askOf(x, first, 4);
+            Check.due("depth(2)", x.depth(2), 2);
+            askOf(x, first, 4);
+            dueBase(x, 3, 2, 1);
+            askOf(x, first, 4);
+            Check.due("bestCommon(2, 3)", x.bestCommon(2, 3), 1);
+            askOf(x, first, 4);
+            Check.due("firstWith(3, 0, 1, 6)", x.firstWith(3, 0, 1, 6), -1);
+            x.dropBranch(0);
+            x.reset(3);
+            askOf(x, first, 4);
+            Check.due("lost", x.lost(), 2);
+        }
+    }
+
+    private static void askOf(BranchedSource x, int kind, int commit) {
+        if (kind < QUESTIONS.length) {
+            QUESTIONS[kind].ask(x, commit, commit);
+        } else {
+            QUESTIONS_OF_ONE[kind - QUESTIONS.length].ask(x, commit, 0);
         }
     }
 

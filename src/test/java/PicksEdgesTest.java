@@ -25,6 +25,7 @@ public final class PicksEdgesTest {
         replayLeavesOut();
         replayGoesDownToWhatTheOtherReaches();
         replayInTheOrderOfNumbers();
+        replayBehindReplay();
         Check.end();
     }
 
@@ -81,6 +82,16 @@ public final class PicksEdgesTest {
             Refused.byState(name(0, isBackwards) + " at the commit 0", () -> {
                 BranchedSource x = Scenes.fork(Scenes.marked());
                 x.reset(0);
+                return x;
+            }, x -> take(x, 0, isBackwards));
+            Refused.byState(name(0, isBackwards) + " behind another combining", () -> {
+                BranchedSource x = Scenes.fork(Scenes.marked());
+                x.wouldConflict(0);
+                return x;
+            }, x -> take(x, 0, isBackwards));
+            Refused.byState(name(0, isBackwards) + " behind a pick", () -> {
+                BranchedSource x = Scenes.fork(Scenes.marked());
+                x.pick(2);
                 return x;
             }, x -> take(x, 0, isBackwards));
         }
@@ -338,6 +349,22 @@ public final class PicksEdgesTest {
         Refused.byState("one commit more than 60", () -> toReplay(Scenes.marked(), 1, 60), x -> x.replay(0));
         Refused.byState("three commits more than 58", () -> toReplay(Scenes.marked(), 3, 58), x -> x.replay(0));
         Refused.byState("two commits more than 59", () -> toReplay(Scenes.marked(), 2, 59), x -> x.replay(0));
+        for (int leftOut = 0; leftOut < 3; leftOut++) {
+            int at = leftOut;
+            Refused.byState("two commits more than 59, and one that is left out", () -> {
+                BranchedSource x = Scenes.marked();
+                x.newBranch();
+                Scenes.commitLine(x, 1, 1, 1);
+                x.switchTo(1);
+                for (int own = 0; own < 3; own++) {
+                    Scenes.commitLine(x, own == at ? 1 : 2, own == at ? 1 : own, 1);
+                }
+                x.switchTo(0);
+                Scenes.upTo(x, 59);
+                x.switchTo(1);
+                return x;
+            }, x -> x.replay(0));
+        }
     }
 
     private static void replayUpToSixty() {
@@ -421,6 +448,29 @@ public final class PicksEdgesTest {
         Scenes.commitLine(all, 0, 1, 1);
         Check.due("down to the commit 0", all.replay(0), 1);
         Check.due("firstParent", all.firstParent(3), 1);
+    }
+
+    /** What a replay, or a refused one, has looked at is no part of the next one. */
+    private static void replayBehindReplay() {
+        Check.part("promise 17: each replay stands alone");
+        BranchedSource x = Scenes.fork();
+        x.newBranch();
+        Scenes.commitLine(x, 0, 1, 3);
+        Check.dueStateFault("replay in conflict", () -> x.replay(0));
+        x.switchTo(2);
+        Scenes.commitLine(x, 3, 3, 3);
+        x.reset(1);
+        Scenes.commitLine(x, 3, 4, 4);
+        Check.due("replay of one", x.replay(0), 1);
+        Check.due("commits", x.commits(), 8);
+        Check.due("firstParent", x.firstParent(7), 2);
+        Check.due("lineAt(7, 0, 2)", x.lineAt(7, 0, 2), 0);
+        Check.due("lineAt(7, 3, 4)", x.lineAt(7, 3, 4), 4);
+        x.undo();
+        x.reset(3);
+        Check.due("replay of another one", x.replay(0), 1);
+        Check.due("lineAt(7, 0, 2)", x.lineAt(7, 0, 2), 7);
+        Check.due("lineAt(7, 3, 4)", x.lineAt(7, 3, 4), 0);
     }
 
     private static void replayInTheOrderOfNumbers() {

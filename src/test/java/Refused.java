@@ -1,3 +1,5 @@
+import java.util.Arrays;
+
 /** Looks whether a call is refused as it is due, and whether all is behind it as it was. */
 final class Refused {
     /** Makes an object; each time the same. */
@@ -48,6 +50,6 @@ final class Refused {
                 numbers[count++] = far;
             }
         }
-        return java.util.Arrays.copyOf(numbers, count);
+        return Arrays.copyOf(numbers, count);
     }
 }

@@ -1,3 +1,5 @@
+import java.util.Arrays;
+
 /** What the terms say of combining: a test for each sentence, by each call that combines. */
 public final class TermsEdgesTest {
     public static void main(String[] args) {
@@ -76,7 +78,7 @@ public final class TermsEdgesTest {
     private static int[][] kinds(int start, int[][] kinds) {
         int[][] rows = new int[3][24];
         for (int row = 0; row < 3; row++) {
-            java.util.Arrays.fill(rows[row], 9);
+            Arrays.fill(rows[row], 9);
             for (int kind = 0; kind < kinds.length; kind++) {
                 rows[row][(start + kind) % 24] = kinds[kind][row];
             }

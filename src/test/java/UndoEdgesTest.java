@@ -7,12 +7,14 @@ public final class UndoEdgesTest {
         keepHoldsNeitherPadNorRecords();
         goBackWithoutSnapshot();
         goBackToAll();
+        openMergeComesBackWhole();
         goBackAgainAndAgain();
         goBackIsAChange();
         goBackLeavesThePad();
         undoWithoutRecord();
         undoUpToFour();
         theOldestIsForgotten();
+        numbersAreGivenAgain();
         undoForgetsTheStateThatItBringsBack();
         undoLeavesPadAndSnapshot();
         undoIsNoChange();
@@ -126,6 +128,29 @@ public final class UndoEdgesTest {
                 turnOver(x);
                 Check.due("goBack", x.goBack(), y.commits());
                 Check.dueText("what is behind goBack", Look.by(way, x), Look.by(way, y));
+                BranchedSource z = scene.made();
+                z.clearPad();
+                z.keep();
+                takeAllBack(z);
+                turnOver(z);
+                Check.due("goBack behind undo", z.goBack(), scene.made().commits());
+                Check.dueText("what is behind undo and goBack", Look.by(way, z), Look.by(way, clearedPad(scene.made())));
+            }
+        }
+    }
+
+    private static BranchedSource clearedPad(BranchedSource x) {
+        x.clearPad();
+        return x;
+    }
+
+    /** Afterwards the numbers of the latest commits are given again, to other commits. */
+    private static void takeAllBack(BranchedSource x) {
+        for (int count = 0; count < 4; count++) {
+            try {
+                x.undo();
+            } catch (IllegalStateException e) {
+                return;
             }
         }
     }
@@ -150,14 +175,35 @@ public final class UndoEdgesTest {
             x.edit(place / 6, place % 6, 81);
         }
         x.commit();
-        x.edit(0, 0, 82);
-        x.putAside();
+        for (int line = 0; line < 3; line++) {
+            x.edit(line, line, 82);
+            x.edit(3, 5 - line, 82);
+            x.putAside();
+        }
         x.switchTo(made);
         for (int place = 0; place < 24; place++) {
             x.edit(place / 6, place % 6, 83);
         }
         x.commit();
         x.merge(x.isBranch(0) && x.current() != 0 ? 0 : 1);
+    }
+
+    private static void openMergeComesBackWhole() {
+        Check.part("promises 58, 59: the commit that is merged comes back too");
+        BranchedSource x = Scenes.openMergeResolved(new BranchedSource());
+        x.keep();
+        x.commit();
+        Check.due("undo of the commit", x.undo(), 3);
+        Check.due("commit again", x.commit(), 3);
+        Check.due("secondParent", x.secondParent(3), 1);
+        x.reset(0);
+        x.edit(0, 0, 9);
+        x.commit();
+        Check.due("goBack", x.goBack(), 3);
+        Check.due("isMerging", x.isMerging(), true);
+        Check.due("commit", x.commit(), 3);
+        Check.due("firstParent", x.firstParent(3), 2);
+        Check.due("secondParent", x.secondParent(3), 1);
     }
 
     private static void goBackAgainAndAgain() {
@@ -206,6 +252,48 @@ public final class UndoEdgesTest {
         Check.due("runOrders", x.runOrders(), 1);
         Check.due("lineOf", x.lineOf(3, 3), 7);
         Check.due("clearPad", x.clearPad(), 6);
+    }
+
+    /** The records hold the trees and the parents of all commits: their numbers can be given again. */
+    private static void numbersAreGivenAgain() {
+        Check.part("terms: the state is recorded: everything except the pad, the snapshot, and the records");
+        BranchedSource x = mergedFork();
+        turnAround(x);
+        x.undo();
+        x.undo();
+        x.undo();
+        Check.due("the merge is back", x.undo(), 0);
+        String before = Look.atNow(mergedFork());
+        Check.dueText("what is behind undo", Look.atNow(x), before);
+        int[][] parents = {{-1, -1}, {0, -1}, {1, -1}, {1, -1}, {3, 2}};
+        int[][] lines = {{0, 0, 0}, {5, 0, 0}, {5, 6, 0}, {5, 0, 7}, {5, 6, 7}};
+        for (int commit = 0; commit < 5; commit++) {
+            Check.due("firstParent(" + commit + ")", x.firstParent(commit), parents[commit][0]);
+            Check.due("secondParent(" + commit + ")", x.secondParent(commit), parents[commit][1]);
+            for (int line = 0; line < 3; line++) {
+                Check.due("lineAt(" + commit + ", 0, " + line + ")", x.lineAt(commit, 0, line), lines[commit][line]);
+            }
+        }
+    }
+
+    /** A fork that is merged; the snapshot is of the time before the commits. */
+    private static BranchedSource mergedFork() {
+        BranchedSource x = new BranchedSource();
+        x.keep();
+        Scenes.fork(x);
+        x.merge(0);
+        return x;
+    }
+
+    /** Four changes, by which the commits 1 and 2 become others. */
+    private static void turnAround(BranchedSource x) {
+        x.goBack();
+        x.edit(3, 3, 33);
+        x.commit();
+        Check.due("lineAt(1, 0, 0)", x.lineAt(1, 0, 0), 0);
+        x.revert(1);
+        Check.due("firstParent(2)", x.firstParent(2), 1);
+        Check.due("lineAt(2, 3, 3)", x.lineAt(2, 3, 3), 0);
     }
 
     private static void undoWithoutRecord() {
