@@ -466,5 +466,25 @@ public final class WorkEdgesTest {
         Check.due("takeBack on another branch", y.takeBack(), 1);
         Check.due("a line that becomes 0", y.lineOf(0, 0), 0);
         Check.due("lineOf", y.lineOf(1, 1), 1);
+        eachAsideHasItsHead();
+    }
+
+    /** Three are aside, each made at a commit of its own, in which the line 0 of file 0 was another one. */
+    private static void eachAsideHasItsHead() {
+        BranchedSource x = new BranchedSource();
+        for (int number = 1; number <= 3; number++) {
+            Scenes.commitLine(x, 0, 0, number);
+            x.edit(0, 0, 10 * number);
+            x.edit(1, number, number);
+            x.putAside();
+        }
+        for (int number = 3; number >= 1; number--) {
+            x.reset(number);
+            Check.due("takeBack at the commit of its time", x.takeBack(), 2);
+            Check.due("lineOf", x.lineOf(0, 0), 10 * number);
+            Check.due("lineOf", x.lineOf(1, number), number);
+            Check.due("changed", x.changed(), 2);
+        }
+        Check.due("aside", x.aside(), 0);
     }
 }
