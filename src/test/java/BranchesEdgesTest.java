@@ -37,6 +37,7 @@ public final class BranchesEdgesTest {
         () -> Scenes.openMergeResolved(Scenes.marked()),
         () -> Scenes.openPick(Scenes.marked()),
         () -> resolvedPick(Scenes.marked()),
+        () -> Scenes.openHighMerge(Scenes.marked()),
     };
 
     private static BranchedSource resolvedPick(BranchedSource x) {
@@ -100,8 +101,9 @@ public final class BranchesEdgesTest {
             int current = x.current();
             int conflicts = x.conflicts();
             boolean isMerging = x.isMerging();
+            int count = x.branches();
             int made = x.newBranch();
-            Check.due("newBranch", made, 2);
+            Check.due("newBranch", made, count);
             Check.due("standsAt", x.standsAt(made), x.head());
             Check.due("current", x.current(), current);
             Check.due("conflicts", x.conflicts(), conflicts);

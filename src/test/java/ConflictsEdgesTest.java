@@ -26,6 +26,7 @@ public final class ConflictsEdgesTest {
         () -> Scenes.openMergeResolved(Scenes.marked()),
         () -> Scenes.openPick(Scenes.marked()),
         () -> Scenes.openRevert(Scenes.marked()),
+        () -> Scenes.openHighMerge(Scenes.marked()),
     };
 
     /** A revert of the commit 1 is open on all 24 lines: theirs is 0, ours the number of the place and 10. */
@@ -295,8 +296,8 @@ public final class ConflictsEdgesTest {
 
     private static void openWithoutConflicts() {
         Check.part("promises 25, 26, terms: open until it is committed or aborted, or reset is called");
-        boolean[] merging = {false, true, true, false, false};
-        boolean[] picking = {false, false, false, true, true};
+        boolean[] merging = {false, true, true, false, false, true};
+        boolean[] picking = {false, false, false, true, true, false};
         for (int kind = 0; kind < SCENES.length; kind++) {
             BranchedSource x = SCENES[kind].made();
             dueOpen(x, merging[kind], picking[kind]);

@@ -154,6 +154,20 @@ final class Scenes {
         return x;
     }
 
+    /**
+     * A merge of branch 0, which stands at commit 4, into branch 2, which stands at commit 5, is open;
+     * the line 0 of file 0 (50, theirs 4) is in conflict.
+     */
+    static BranchedSource openHighMerge(BranchedSource x) {
+        x.newBranch();
+        x.newBranch();
+        upTo(x, 5);
+        x.switchTo(2);
+        commitLine(x, 0, 0, 50);
+        x.merge(0);
+        return x;
+    }
+
     /** An open merge as that of openMerge, but with a working tree that is clean. */
     static BranchedSource openMergeClean(BranchedSource x) {
         openMerge(x);

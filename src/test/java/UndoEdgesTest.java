@@ -109,6 +109,7 @@ public final class UndoEdgesTest {
         Check.part("promise 58: goes back to the snapshot: everything except the pad, and the records");
         Refused.Scene[] scenes = {
             BranchedSource::new, Scenes::fork, Scenes::openMerge, Scenes::openPick, Scenes::crossed,
+            () -> Scenes.openHighMerge(new BranchedSource()),
             () -> Scenes.openRevert(new BranchedSource()),
             () -> Scenes.openMergeResolved(new BranchedSource()),
             () -> Scenes.threeAside(Scenes.fork()),
@@ -170,6 +171,7 @@ public final class UndoEdgesTest {
                 x.dropBranch(branch);
             }
         }
+        int left = x.current();
         int made = x.newBranch();
         for (int place = 0; place < 24; place++) {
             x.edit(place / 6, place % 6, 81);
@@ -185,7 +187,7 @@ public final class UndoEdgesTest {
             x.edit(place / 6, place % 6, 83);
         }
         x.commit();
-        x.merge(x.isBranch(0) && x.current() != 0 ? 0 : 1);
+        x.merge(left);
     }
 
     private static void openMergeComesBackWhole() {
@@ -204,6 +206,19 @@ public final class UndoEdgesTest {
         Check.due("commit", x.commit(), 3);
         Check.due("firstParent", x.firstParent(3), 2);
         Check.due("secondParent", x.secondParent(3), 1);
+        BranchedSource y = Scenes.openHighMerge(new BranchedSource());
+        y.keep();
+        y.abort();
+        Check.due("undo of abort", y.undo(), 3);
+        Check.due("isMerging", y.isMerging(), true);
+        y.resolve(0, 0, true);
+        Check.due("commit", y.commit(), 6);
+        Check.due("secondParent", y.secondParent(6), 4);
+        Check.due("goBack", y.goBack(), 6);
+        y.edit(0, 0, 51);
+        Check.due("commit", y.commit(), 6);
+        Check.due("firstParent", y.firstParent(6), 5);
+        Check.due("secondParent", y.secondParent(6), 4);
     }
 
     private static void goBackAgainAndAgain() {

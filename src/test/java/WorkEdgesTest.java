@@ -36,6 +36,7 @@ public final class WorkEdgesTest {
         () -> Scenes.openMergeResolved(Scenes.marked()),
         () -> Scenes.openPick(Scenes.marked()),
         () -> Scenes.openRevert(Scenes.marked()),
+        () -> Scenes.openHighMerge(Scenes.marked()),
     };
 
     private static void editAtLeastAndGreatest() {
@@ -223,7 +224,7 @@ public final class WorkEdgesTest {
             for (int place = 0; place < 24; place++) {
                 x.edit(place / 6, place % 6, 60);
             }
-            int second = x.isMerging() ? 1 : -1;
+            int second = !x.isMerging() ? -1 : x.current() == 2 ? 4 : 1;
             int made = x.commit();
             Check.due("secondParent", x.secondParent(made), second);
             Check.due("isMerging", x.isMerging(), false);
