@@ -1,3 +1,5 @@
+import java.util.Arrays;
+
 /** The edges of promises 45 to 52: a test for each sentence. */
 public final class HistoriesEdgesTest {
     public static void main(String[] args) {
@@ -22,6 +24,7 @@ public final class HistoriesEdgesTest {
         baseIsTheHighest();
         oneBestCommon();
         severalBestCommon();
+        netsOfMerges();
         Check.end();
     }
 
@@ -365,5 +368,113 @@ public final class HistoriesEdgesTest {
         BranchedSource deep = Scenes.crossedAbove(4);
         Check.due("two best ones above four commits", deep.bestCommon(7, 8), 2);
         Check.due("the base is the higher one", deep.base(7, 8), 6);
+    }
+
+    /** A net of commits and merges on three branches; each commit sets a line of its own, so nothing is in conflict. */
+    private static BranchedSource net(int kind) {
+        BranchedSource x = new BranchedSource();
+        x.newBranch();
+        x.newBranch();
+        for (int place = 0; place < 12; place++) {
+            int branch = (place * (kind + 1) + place / 4) % 3;
+            if (x.current() != branch) {
+                x.switchTo(branch);
+            }
+            Scenes.commitLine(x, place / 6, place % 6, 1 + place);
+            int other = (branch + 1 + (place + kind) % 2) % 3;
+            if ((place + kind) % 3 != 0 && !x.reaches(x.head(), x.standsAt(other))) {
+                cross(x, other, (place + kind) % 2 == 0);
+            }
+        }
+        return x;
+    }
+
+    /** Merges the other branch and, if wanted, into the other one what stood here before: both have two best common ones. */
+    private static void cross(BranchedSource x, int other, boolean isBothWays) {
+        int before = x.newBranch();
+        x.merge(other);
+        if (isBothWays && !x.reaches(x.standsAt(other), x.standsAt(before))) {
+            x.switchTo(other);
+            x.merge(before);
+        }
+        x.dropBranch(before);
+    }
+
+    /** What the terms say, told from the parents alone in the plainest way. */
+    private static void netsOfMerges() {
+        Check.part("promises 45 to 52: nets of merges, told from their parents");
+        for (int kind = 0; kind < 6; kind++) {
+            BranchedSource shape = net(kind);
+            int count = shape.commits();
+            int[][] steps = new int[count][count];
+            int[] depths = new int[count];
+            for (int commit = 0; commit < count; commit++) {
+                tellSteps(shape, commit, steps[commit], depths, steps);
+            }
+            for (int commit = 0; commit < count; commit++) {
+                BranchedSource x = net(kind);
+                for (int other = 0; other < count; other++) {
+                    Check.due("distance(" + commit + ", " + other + ")", x.distance(commit, other), steps[commit][other]);
+                    Check.due("reaches(" + commit + ", " + other + ")", x.reaches(commit, other), steps[commit][other] >= 0);
+                    dueBase(x, commit, other, highestCommon(steps[commit], steps[other]));
+                    Check.due("bestCommon(" + commit + ", " + other + ")", x.bestCommon(commit, other),
+                        countBest(steps[commit], steps[other], steps));
+                }
+                Check.due("depth(" + commit + ")", x.depth(commit), depths[commit]);
+                dueHistory(x, commit, steps[commit]);
+            }
+        }
+    }
+
+    /** Parents have lower numbers, so what is told of them is there already; -1 stands for what is not reached. */
+    private static void tellSteps(BranchedSource x, int commit, int[] row, int[] depths, int[][] steps) {
+        Arrays.fill(row, -1);
+        row[commit] = 0;
+        for (int parent : new int[] {x.firstParent(commit), x.secondParent(commit)}) {
+            if (parent < 0) {
+                continue;
+            }
+            depths[commit] = Math.max(depths[commit], depths[parent] + 1);
+            for (int other = 0; other < commit; other++) {
+                int way = steps[parent][other] + 1;
+                if (way > 0 && (row[other] < 0 || way < row[other])) {
+                    row[other] = way;
+                }
+            }
+        }
+    }
+
+    private static int highestCommon(int[] one, int[] other) {
+        int highest = -1;
+        for (int commit = 0; commit < one.length; commit++) {
+            if (one[commit] >= 0 && other[commit] >= 0) {
+                highest = commit;
+            }
+        }
+        return highest;
+    }
+
+    private static int countBest(int[] one, int[] other, int[][] steps) {
+        int count = 0;
+        for (int commit = 0; commit < one.length; commit++) {
+            boolean isBest = one[commit] >= 0 && other[commit] >= 0;
+            for (int above = commit + 1; above < one.length; above++) {
+                isBest = isBest && !(one[above] >= 0 && other[above] >= 0 && steps[above][commit] >= 0);
+            }
+            count += isBest ? 1 : 0;
+        }
+        return count;
+    }
+
+    private static void dueHistory(BranchedSource x, int commit, int[] row) {
+        int place = 0;
+        for (int other = commit; other >= 0; other--) {
+            if (row[other] >= 0) {
+                Check.due("historyAt(" + commit + ", " + place + ")", x.historyAt(commit, place), other);
+                place++;
+            }
+        }
+        Check.due("historyAt(" + commit + ", " + place + ")", x.historyAt(commit, place), -1);
+        Check.due("history(" + commit + ")", x.history(commit), place);
     }
 }

@@ -448,6 +448,24 @@ public final class PicksEdgesTest {
         Scenes.commitLine(all, 0, 1, 1);
         Check.due("down to the commit 0", all.replay(0), 1);
         Check.due("firstParent", all.firstParent(3), 1);
+        BranchedSource edited = Scenes.fork();
+        edited.switchTo(0);
+        Scenes.commitLine(edited, 0, 0, 9);
+        edited.switchTo(1);
+        Check.due("what the other branch reaches and edited does not conflict", edited.replay(0), 1);
+        Check.due("firstParent", edited.firstParent(5), 4);
+        Check.due("lineOf(0, 0)", edited.lineOf(0, 0), 9);
+        BranchedSource reverted = new BranchedSource();
+        Scenes.commitLine(reverted, 0, 0, 1);
+        reverted.newBranch();
+        reverted.revert(1);
+        reverted.switchTo(1);
+        Scenes.commitLine(reverted, 1, 1, 1);
+        Check.due("what the other branch reaches and reverted is not picked again", reverted.replay(0), 1);
+        Check.due("commits", reverted.commits(), 5);
+        Check.due("firstParent", reverted.firstParent(4), 2);
+        Check.due("lineOf(0, 0)", reverted.lineOf(0, 0), 0);
+        Check.due("lineOf(1, 1)", reverted.lineOf(1, 1), 1);
     }
 
     /** What a replay, or a refused one, has looked at is no part of the next one. */

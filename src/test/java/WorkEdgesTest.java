@@ -156,6 +156,11 @@ public final class WorkEdgesTest {
         Check.due("secondParent", x.secondParent(3), 1);
         Check.due("differences", x.differences(3, 2), 0);
         Check.dueStateFault("commit again", x::commit);
+        BranchedSource high = resolved(Scenes.openHighMerge(new BranchedSource()), false);
+        Check.due("changed", high.changed(), 0);
+        Check.due("commit", high.commit(), 6);
+        Check.due("firstParent", high.firstParent(6), 5);
+        Check.due("secondParent", high.secondParent(6), 4);
     }
 
     private static void commitOfCleanTreeInPick() {
