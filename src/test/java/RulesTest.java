@@ -1,7 +1,12 @@
 import java.io.IOException;
+import java.lang.reflect.Field;
+import java.lang.reflect.Method;
+import java.lang.reflect.Modifier;
 import java.nio.file.Files;
 import java.nio.file.Path;
 import java.util.List;
+import java.util.Set;
+import java.util.TreeSet;
 import java.util.regex.Matcher;
 import java.util.regex.Pattern;
 
@@ -29,8 +34,57 @@ public final class RulesTest {
         Check.due("at most 12 classes", count(code, "\\bclass\\b") <= 12, true);
         Check.due("static fields that are not final", count(code, "\\bstatic (?!final\\b)[\\w\\[\\]]+ \\w+( =|;)"), 0);
         Check.due("signs beyond 126", code.chars().filter(sign -> sign > 126).count(), 0);
+        lookAtLibrary(code);
+        lookAtMakings(code);
         lookAtMethods(lines);
+        lookAtClasses();
         Check.end();
+    }
+
+    /** Rule 4: of the library only what is listed; the text has no other name of it than these. */
+    private static void lookAtLibrary(String code) {
+        Set<String> allowed = Set.of("Math.max", "Math.min", "System.arraycopy", "Arrays.fill");
+        Matcher matcher = Pattern.compile("\\b(?!Histories\\b|Pad\\b)([A-Z]\\w*[a-z]\\w*)\\.(\\w+)").matcher(code);
+        while (matcher.find()) {
+            Check.due("allowed is " + matcher.group(), allowed.contains(matcher.group()), true);
+        }
+    }
+
+    /** Rules 6 and 12: what is thrown, and what is made: nothing in a loop but the rows of the records. */
+    private static void lookAtMakings(String code) {
+        String thrown = "throw new (IllegalArgumentException|IllegalStateException)\\(\"[^\"]+\"\\);";
+        Check.due("throws by a written text", count(code, "\\bthrow\\b"), count(code, thrown));
+        String others = code.replaceAll(thrown, "");
+        Check.due("what is made in a field", count(others, "\\bnew\\b"),
+            count(others, "private final [\\w\\[\\]]+ \\w+ = new [^;]*;") + 1);
+        Check.due("the rows of the records", count(others, "ring\\[slot\\] = new State\\(\\);"), 1);
+    }
+
+    /** Rules 1, 2 and 11, by the classes themselves. */
+    private static void lookAtClasses() {
+        Set<String> face = new TreeSet<>();
+        for (Method method : BranchedSource.class.getMethods()) {
+            face.add(method.getName());
+        }
+        lookAtFields(BranchedSource.class);
+        for (Class<?> inside : BranchedSource.class.getDeclaredClasses()) {
+            Check.due(inside + " is static", Modifier.isStatic(inside.getModifiers()), true);
+            Check.due(inside + " is public or protected",
+                Modifier.isPublic(inside.getModifiers()) || Modifier.isProtected(inside.getModifiers()), false);
+            Check.due("classes in " + inside, inside.getDeclaredClasses().length, 0);
+            for (Method method : inside.getDeclaredMethods()) {
+                Check.due("a name of the face is that of " + method, face.contains(method.getName()), false);
+            }
+            lookAtFields(inside);
+        }
+    }
+
+    private static void lookAtFields(Class<?> one) {
+        int fields = 0;
+        for (Field field : one.getDeclaredFields()) {
+            fields += Modifier.isStatic(field.getModifiers()) ? 0 : 1;
+        }
+        Check.due("at most 20 fields in " + one, fields <= 20, true);
     }
 
     private static int count(String text, String pattern) {
